@@ -88,6 +88,9 @@ public final class PromisesTest {
             x.tick(1);
         }
         check.due("grace " + grace + ": merge()", x.merge(), 0);
+        x.put(0, 1, 1, 1, 1);
+        x.flush();
+        check.due("grace " + grace + ", with a cell that has not ended: merge()", x.merge(), 1);
     }
 
     private static void promise2Put() {
@@ -606,6 +609,10 @@ public final class PromisesTest {
         check.due("crash()", x.crash(), 0);
         counts(x, 0, 1, 0, 0);
         check.due("get(7, 7)", x.get(7, 7), 1);
+
+        x.put(7, 6, 2, 2, 0);
+        x.flush();
+        run(x, 1, 1, 0, 0);
 
         // The tick when a deletion was made is kept, and a full memory is not flushed.
         x = new WideStore(2, 6);
