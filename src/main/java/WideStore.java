@@ -21,7 +21,7 @@ public final class WideStore {
     private static final int MAX_LOG = 512;
 
     // Later than every tick, so that a cell that never ends needs no rule of its own.
-    private static final int NEVER = Integer.MAX_VALUE;
+    private static final int NEVER = 2147483647;
 
     // With the same stamp the greater kind wins.
     private static final int CELL = 0;
